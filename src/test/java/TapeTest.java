@@ -93,6 +93,13 @@ public final class TapeTest {
         fault("gues with 3;", 0);
         fault("Guest with 3;", 0);
         fault("guest With 3;", 6);
+        fault("xuest with 3;", 0);
+        fault("guest xith 3;", 6);
+        fault("guest with 3 xone 3;", 13);
+        fault("guest with 3 drownex;", 13);
+        fault("zold 3;", 0);
+        fault("zlip 3;", 0);
+        fault("drizzle 3;", 0);
         fault("guest with 3 Gone 3;", 13);
         fault("guest with 3.", 12);
         fault("guest with 3 3;", 13);
