@@ -2,12 +2,18 @@
 final class Due {
     private int wrong;
     private int asked;
+    private String test = "";
+
+    /** Which test asks from here on. */
+    void in(String name) {
+        test = name + ": ";
+    }
 
     void due(String call, long got, long want) {
         asked++;
         if (got != want) {
             wrong++;
-            System.out.println(call + " answered " + got + ", due is " + want);
+            System.out.println(test + call + " answered " + got + ", due is " + want);
         }
     }
 
