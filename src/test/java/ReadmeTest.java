@@ -13,7 +13,7 @@ import java.util.regex.Pattern;
 import java.util.stream.Collectors;
 import java.util.stream.Stream;
 
-/** README.md: its examples, compiled as they stand there, answer what it says; and no call of the face is left out. */
+/** README.md: its examples, compiled with each answer caught in an array, answer what it says; no call of the face is left out. */
 public final class ReadmeTest {
     private static final Due T = new Due();
     private static final Pattern BLOCK = Pattern.compile("(?ms)^```java\n(.*?)^```$");
